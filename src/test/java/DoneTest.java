@@ -76,6 +76,9 @@ public final class DoneTest {
         x.sail(true);
         due("home: repair(1)", x.repair(1), NOT);
         due("home: repair(0)", x.repair(0), OUTSIDE);
+        BottomryLoans rich = Check.on("s200 60 0 9;l0 0 1;");
+        due("repair(9)", rich.repair(9), 9);
+        due("told(3), empty", rich.told(3), 0);
         BottomryLoans poor = Check.on("s200 60 0 7;l0 0 8;");
         due("repair(1), purse is less", poor.repair(1), NOT);
         poor.sail(false);

@@ -140,6 +140,8 @@ public final class TriedTest {
         due("hurt(0, 20, true)", x.hurt(0, 20, true), 32);
         due("hurt(2, 20, false), who has not so much", x.hurt(2, 20, false), 32 + 64);
         due("hurt(2, 60, false)", x.hurt(2, 60, false), 32 + 64 + 128);
+        due("hurt(0, 1, false), the least", x.hurt(0, 1, false), 32);
+        due("hurt(0, 1, true), the least", x.hurt(0, 1, true), 32);
         due("hurt(2, 99, true), more is brought than freight loses", x.hurt(2, 99, true), 0);
     }
 
@@ -186,6 +188,26 @@ public final class TriedTest {
         BottomryLoans poor = Check.on("s999 0 0 1;l0 9 1;");
         due("poor: plan(-1)", poor.plan(-1), 279720);
         due("poor: plan(0)", poor.plan(0), 1);
+        // 2 points a port at most
+        BottomryLoans rich = Check.on("s999 0 0 99;l0 9 1;");
+        due("rich: plan(-1)", rich.plan(-1), 405520);
+        due("rich: plan(0)", rich.plan(0), 2);
+        // STATE is 0 at least behind the first leg
+        BottomryLoans rotten = Check.on("s999 0 0 0;l0 0 1;l0 9 1;");
+        due("rotten: plan(-1)", rotten.plan(-1), 189810);
+        planOfNothingLeft();
+    }
+
+    private static void planOfNothingLeft() {
+        BottomryLoans x = Check.on("s9 0 5 3;l50 1 1;l50 1 1;m99 200;");
+        x.borrow(0, 6, false);
+        due("nothing left: told(11)", x.told(11), 0);
+        due("nothing left: plan(-1)", x.plan(-1), 0);
+        due("nothing left: plan(0)", x.plan(0), 0);
+        due("nothing left: plan(1)", x.plan(1), 0);
+        x.borrow(0, 99 - 6, false);
+        due("less than nothing: plan(-1)", x.plan(-1), 0);
+        due("less than nothing: plan(1)", x.plan(1), 0);
     }
 
     private static void planOfLikeOnesTheFirst() {
@@ -235,6 +257,10 @@ public final class TriedTest {
         Check.feed(x, "s7 0 0 0;");
         x.voyage();
         due("plan(-1), another voyage", x.plan(-1), 7000);
+        Check.feed(x, "s8 0 0 0;l50 0 1;");
+        x.voyage();
+        due("plan(-1), one more voyage", x.plan(-1), 4000);
+        due("plan(0), one more voyage", x.plan(0), 0);
     }
 
     private static void belief() {
@@ -270,6 +296,10 @@ public final class TriedTest {
         due("need(8, 0)", x.need(8, 0), 14);
         due("need(8, 1), the first of like ones", x.need(8, 1), 1);
         due("need(0, 1), for 0", x.need(0, 1), 1);
+        BottomryLoans bare = Check.on("s200 60 5 0;l10 1 8;");
+        due("bare: need(5, 0)", bare.need(5, 0), 0);
+        due("bare: need(4, 0)", bare.need(4, 0), 0);
+        due("bare: need(6, 0)", bare.need(6, 0), 8);
         due("need(-1, 0)", x.need(-1, 0), OUTSIDE);
         due("need(10, 0)", x.need(10, 0), OUTSIDE);
         due("need(9, -1)", x.need(9, -1), OUTSIDE);

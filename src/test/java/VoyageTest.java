@@ -267,6 +267,7 @@ public final class VoyageTest {
         due("lender(0, 2), lent", x.lender(0, 2), 70);
         x.undo();
         due("lender(0, 2), undone", x.lender(0, 2), 100);
+        due("lender(1, 2), another lent", x.lender(1, 2), 0);
         due("lender(2, 0)", x.lender(2, 0), UNKNOWN);
         due("lender(-1, 7)", x.lender(-1, 7), UNKNOWN);
         due("lender(0, 3)", x.lender(0, 3), OUTSIDE);
@@ -296,5 +297,18 @@ public final class VoyageTest {
         x.undo();
         due("loan(0, 5), one less", x.loan(0, 5), 2);
         due("loan(3, 0), undone", x.loan(3, 0), UNKNOWN);
+        ranks();
+    }
+
+    private static void ranks() {
+        BottomryLoans x = Check.on("s200 60 5 99;l0 0 8;m150 33;");
+        boolean[] onFreight = {true, true, false, false, true};
+        for (boolean kind : onFreight) {
+            x.borrow(0, 10, kind);
+        }
+        int[] want = {2, 1, 4, 3, 0};
+        for (int i = 0; i < want.length; i++) {
+            due("the rank of loan " + i, x.loan(i, 5), want[i]);
+        }
     }
 }
