@@ -25,6 +25,9 @@ public final class BottomryLoans {
     private static final int HAS = 0, ASKS = 1, HAS_YET = 2;
     private static final int LENT_BY = 0, AMOUNT = 1, KIND = 2, DUE = 3, TAKEN = 4, RANK = 5;
 
+    /** The columns of what was told paid. */
+    private static final int OF_LOAN = 0, WAS_PAID = 1;
+
     /** What a loan is on. */
     private static final int ON_SHIP = 0, ON_FREIGHT = 1;
 
@@ -309,8 +312,8 @@ public final class BottomryLoans {
             return FULL;
         }
         int n = toldPaid.open();
-        toldPaid.set(n, 0, i);
-        toldPaid.set(n, 1, v);
+        toldPaid.set(n, OF_LOAN, i);
+        toldPaid.set(n, WAS_PAID, v);
         return toldPaid.rows();
     }
 
@@ -487,8 +490,8 @@ public final class BottomryLoans {
     // ---- what she was worth
 
     private boolean canBeSo(int n) {
-        int i = toldPaid.get(n, 0);
-        int v = toldPaid.get(n, 1);
+        int i = toldPaid.get(n, OF_LOAN);
+        int v = toldPaid.get(n, WAS_PAID);
         if (!she.loans.has(i)) {
             return false;
         }
@@ -498,29 +501,29 @@ public final class BottomryLoans {
 
     /** A loan on freight is paid the same whatever she is worth. */
     private boolean isFreightTold(int n) {
-        return she.loans.get(toldPaid.get(n, 0), KIND) == ON_FREIGHT;
+        return she.loans.get(toldPaid.get(n, OF_LOAN), KIND) == ON_FREIGHT;
     }
 
     private int leastWorthFor(int n) {
         if (!canBeSo(n)) {
             return MONEY_MOST + 1;
         }
-        return isFreightTold(n) || toldPaid.get(n, 1) == 0 ? 0 : worthJustFor(n);
+        return isFreightTold(n) || toldPaid.get(n, WAS_PAID) == 0 ? 0 : worthJustFor(n);
     }
 
     private int greatestWorthFor(int n) {
         if (!canBeSo(n)) {
             return NONE;
         }
-        boolean paidWhole = toldPaid.get(n, 1) == she.loans.get(toldPaid.get(n, 0), DUE);
+        boolean paidWhole = toldPaid.get(n, WAS_PAID) == she.loans.get(toldPaid.get(n, OF_LOAN), DUE);
         return isFreightTold(n) || paidWhole ? MONEY_MOST : worthJustFor(n);
     }
 
     /** The worth by which exactly what was told comes down to that loan on the ship; it may be no worth at all. */
     private int worthJustFor(int n) {
         int besidesWorth = shipMoney(voyage.ship.get(0, FREIGHT)) - voyage.ship.get(0, WORTH);
-        int paidAhead = she.dueFrom(toldPaid.get(n, 0) + 1, ON_SHIP);
-        return toldPaid.get(n, 1) + paidAhead - besidesWorth;
+        int paidAhead = she.dueFrom(toldPaid.get(n, OF_LOAN) + 1, ON_SHIP);
+        return toldPaid.get(n, WAS_PAID) + paidAhead - besidesWorth;
     }
 
     /** Rows of numbers with a fixed room; a place that is not among them reads as 0 and takes nothing. */
