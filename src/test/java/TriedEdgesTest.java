@@ -14,6 +14,7 @@ public final class TriedEdgesTest {
         comesHome();
         rate();
         willing();
+        chanceAnswers();
         paid();
         hurt();
         hurtRefused();
@@ -22,6 +23,7 @@ public final class TriedEdgesTest {
         planBounds();
         planFirst();
         planAnswers();
+        planFromNow();
         worth();
         worthNeverSo();
         worthAnswers();
@@ -109,11 +111,44 @@ public final class TriedEdgesTest {
         due("400000: 250 is just enough", on("s1 0 9 0;l60 0 1;").rate(), 150);
         due("300000: 333 is 99900000", on("s1 0 9 0;l70 0 1;").rate(), 234);
         due("100000: 1000 is just enough", on("s1 0 9 0;l90 0 1;").rate(), 900);
-        due("91000: 1099 is 100009000", on("s1 0 9 0;l30 0 1;l87 0 1;").rate(), 999);
-        due("90948: 1099 is 99951852", on("s1 0 9 0;l42 0 1;l51 0 1;l68 0 1;").rate(), NONE);
+        BottomryLoans justLess = on("s1 0 9 0;l48 0 1;l18 0 1;l14 0 1;l10 0 1;");
+        due("comesHome()", justLess.comesHome(), 330033);
+        due("330033: 303 is 99999999", justLess.rate(), 204);
+        BottomryLoans justMore = on("s1 0 9 0;l89 0 1;l12 0 1;l6 0 1;");
+        due("comesHome()", justMore.comesHome(), 90992);
+        due("90992: 1099 is 100000208", justMore.rate(), 999);
+        BottomryLoans never = on("s1 0 9 0;l83 0 1;l38 0 1;l11 0 1;l3 0 1;");
+        due("comesHome()", never.comesHome(), 90991);
+        due("90991: 1099 is 99999109", never.rate(), NONE);
         due("90000", on("s1 0 9 0;l91 0 1;").rate(), NONE);
         due("0", on("s1 0 0 0;l99 9 1;").rate(), NONE);
         due("HOME", on("s1 0 0 0;").rate(), 0);
+    }
+
+    private static void chanceAnswers() {
+        BottomryLoans x = on("s1 0 9 0;l50 0 1;l96 0 1;m9 0;m9 100;");
+        sentence("COMES HOME. NOT.");
+        int[] there = {20000, 40000, 1000000};
+        for (int l = 0; l < there.length; l++) {
+            due("comesHome() ahead of LEG " + l, x.comesHome(), there[l]);
+            x.sail(true);
+        }
+        due("no SHIP: comesHome()", new BottomryLoans().comesHome(), NOT);
+        sentence("RATE; NONE. NOT.");
+        due("HOME: rate()", x.rate(), 0);
+        x.undo();
+        due("the last LEG: rate()", x.rate(), NONE);
+        due("no SHIP: rate()", new BottomryLoans().rate(), NOT);
+        sentence("WILLING. NOT.");
+        due("the last LEG: willing()", x.willing(), 0);
+        x.sail(true);
+        due("HOME: willing()", x.willing(), 3);
+        due("no SHIP: willing()", new BottomryLoans().willing(), NOT);
+        x.undo();
+        x.sail(false);
+        due("LOST: comesHome()", x.comesHome(), NOT);
+        due("LOST: rate(), not NONE", x.rate(), NOT);
+        due("LOST: willing(), not nobody", x.willing(), NOT);
     }
 
     private static void willing() {
@@ -122,6 +157,7 @@ public final class TriedEdgesTest {
         due("at 2", on("s1 0 9 0;l1 0 1;m9 1;m9 2;m9 3;").willing(), 6);
         due("at 200", on("s1 0 9 0;l66 0 1;l2 0 1;m9 199;m9 200;m0 200;").willing(), 0);
         due("333333 is never there, 340000 is: at 195", on("s1 0 9 0;l66 0 1;m9 194;m9 195;m0 200;").willing(), 6);
+        due("456621, 219 is 99999999: at 120", on("s1 0 9 0;l31 0 1;l19 0 1;l14 0 1;l5 0 1;m9 119;m9 120;").willing(), 2);
         due("NONE", on("s1 0 0 0;l99 9 1;m9 0;m9 200;").willing(), 0);
         due("at 900", on("s1 0 9 0;l90 0 1;m9 0;m9 200;").willing(), 0);
         due("no LENDERS", on("s1 0 9 0;l0 0 1;").willing(), 0);
@@ -165,6 +201,8 @@ public final class TriedEdgesTest {
         due("1 at 0 on the SHIP, which brings what it takes", x.hurt(3, 1, false), 0);
         due("999 at 0 on the SHIP", x.hurt(3, 999, false), 0);
         due("1 at 200 on the SHIP", x.hurt(2, 1, false), 8);
+        due("1 at 100 on the SHIP brings 1 and takes 2", x.hurt(1, 1, false), 8);
+        due("1 at 100 on FREIGHT brings 1 and takes 2", x.hurt(1, 1, true), 8);
         due("999 at 200 on the SHIP", x.hurt(2, 999, false), 8);
         due("5 at 0 on FREIGHT takes what was left", x.hurt(3, 5, true), 0);
         due("6 at 0 on FREIGHT takes of the first", x.hurt(3, 6, true), 1);
@@ -265,6 +303,11 @@ public final class TriedEdgesTest {
         plan("one point in all", on("s999 0 7 5;l0 0 3;l0 9 3;"), 820820, 0, 1);
         // a cheap port ahead of a dear one
         plan("cheap first", on("s100 0 7 50;l0 0 1;l0 9 40;"), 134680, 2, 0);
+        // STATE is 0 at least behind the first port: the second one's odds are 81, the point 72
+        plan("0 at least", on("s999 0 0 0;l0 0 1;l0 9 1;"), 189810, 0, 0);
+        plan("0 at least, and a point", on("s999 0 0 1;l0 0 99;l0 9 1;"), 279720, 0, 1);
+        plan("a point that is lost on the way", on("s999 0 0 1;l0 0 1;l0 9 99;"), 190000, 0, 0);
+        plan("1 less to 0", on("s999 0 1 0;l0 9 1;l0 9 1;"), 53146, 0, 0);
         // freight that is left counts, freight that loans eat does not
         BottomryLoans y = on("s1 50 8 0;l0 9 1;m9 0;");
         y.borrow(0, 9, true);
@@ -328,6 +371,39 @@ public final class TriedEdgesTest {
         due("LOST: plan(NONE)", x.plan(NONE), NOT);
         due("LOST: plan(-2)", x.plan(-2), NOT);
         due("LOST: plan(0)", x.plan(0), NOT);
+    }
+
+    private static void planFromNow() {
+        sentence("TRIED from now;");
+        // a plan that was answered once holds no longer than what it was made from
+        BottomryLoans x = on("s999 0 8 1;l0 0 1;l0 9 1;m9 0;");
+        plan("at first", x, 909090, 0, 1);
+        x.keep(0);
+        x.borrow(0, 1, false);
+        plan("borrowed", x, 998000, 0, 2);
+        x.undo();
+        plan("undone", x, 909090, 0, 1);
+        x.repair(1);
+        plan("repaired", x, 909090, 0, 0);
+        x.seed(0);
+        x.drift(1);
+        plan("drifted", x, 909090, 0);
+        x.goBack(0);
+        plan("gone back", x, 909090, 0, 1);
+        x.sail(true);
+        plan("SAILED", x, 909090, 1);
+        x.sail(false);
+        due("LOST: plan(-1)", x.plan(-1), NOT);
+        x.undo();
+        plan("not LOST any more", x, 909090, 1);
+        Check.feed(x, "s7 0 0 0;l50 0 1;");
+        x.voyage();
+        plan("another voyage", x, 3500, 0);
+        Check.feed(x, "s7 0 0 0;l50 0 1;x");
+        x.voyage();
+        plan("a faulty text", x, 3500, 0);
+        x.voyage();
+        due("no SHIP: plan(-1)", x.plan(-1), NOT);
     }
 
     private static void worth(String when, BottomryLoans x, int many, int least, int greatest) {

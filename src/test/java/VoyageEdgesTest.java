@@ -507,6 +507,19 @@ public final class VoyageEdgesTest {
     }
 
     private static void told() {
+        sentence("0 W, 1 F, 2 STATE, 3 PURSE, 4 LEGS, 5 LENDERS, 6 LOANS,");
+        BottomryLoans y = Check.on("s11 22 3 44;l0 0 4;l0 0 1;l0 0 1;m9 0;m9 0;m9 0;m9 0;m9 0;");
+        int[] first = {11, 22, 3, 44, 3, 5, 0};
+        for (int what = 0; what < first.length; what++) {
+            due("at first: told(" + what + ")", y.told(what), first[what]);
+        }
+        y.repair(2);
+        y.borrow(4, 9, false);
+        y.sail(true);
+        int[] then = {11, 22, 4, 45, 3, 5, 1};
+        for (int what = 0; what < then.length; what++) {
+            due("then: told(" + what + ")", y.told(what), then[what]);
+        }
         sentence("7 letters of THE TEXT, 8 LEGS SAILED, 9 0 in a port, 1 HOME (no SHIP, too), 2 LOST, 10 OWED, 11 LEFT, were she HOME (LOST, no SHIP: 0),");
         BottomryLoans x = Check.on("s200 60 5 10;l10 1 8;l5 2 12;m150 30;");
         x.feed('s');
